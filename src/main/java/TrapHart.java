@@ -15,6 +15,7 @@ public final class TrapHart {
 
   /** Causes 0 .. 9, 11, 12, 13 and 15, a bit each. */
   private static final int EXCEPTIONS = 0xBBFF;
+  private static final int LAST_EXCEPTION = 15;
 
   private static final int READ_WRONG = 4;
   private static final int READ_FAULT = 5;
@@ -98,7 +99,7 @@ public final class TrapHart {
   }
 
   public int raise(int cause) throws IllegalArgumentException {
-    if (cause < 0 || cause > 15 || !hasBit(EXCEPTIONS, cause)) {
+    if (cause < 0 || cause > LAST_EXCEPTION || !hasBit(EXCEPTIONS, cause)) {
       throw new IllegalArgumentException("no such exception");
     }
     enterTrap(cause, false);
@@ -304,13 +305,15 @@ public final class TrapHart {
 
   private static final class Timer {
     private static final long LOWER = 0xFFFFFFFFL;
+    private static final long SIGN = 1L << 63;
 
     private long time = 0;
     private long compare = -1L;
     private int soft = 0;
 
     private boolean isReached() {
-      return Long.compareUnsigned(time, compare) >= 0;
+      // Java compares with sign; turning the sign bits over makes that the order without sign.
+      return (time ^ SIGN) >= (compare ^ SIGN);
     }
 
     private static long withLower(long number, int half) {

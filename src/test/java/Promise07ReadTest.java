@@ -71,6 +71,20 @@ public final class Promise07ReadTest {
     Check.is("claimed, so no more pending", hart.read(Harts.PENDING), 0);
   }
 
+  private static void testPendingShowsAllAtOnce() {
+    TrapHart hart = new TrapHart(0);
+    hart.store(192, 1);
+    hart.store(196, 0);
+    hart.store(200, 0);
+    hart.store(4, 1);
+    hart.store(128, 2);
+    hart.store(144, 2);
+    hart.lines(2);
+    Check.is("the devices'", hart.read(Harts.PENDING), 0xA88);
+    hart.write(Harts.PENDING, 0x22);
+    Check.is("and the written", hart.read(Harts.PENDING), 0xAAA);
+  }
+
   private static void testAnySourceAboveTheThresholdCalls() {
     TrapHart hart = new TrapHart(0);
     hart.store(132, 4);
@@ -123,6 +137,7 @@ public final class Promise07ReadTest {
   public static void main(String[] args) {
     testNumbers();
     testPendingShowsTheDevices();
+    testPendingShowsAllAtOnce();
     testAnySourceAboveTheThresholdCalls();
     testWrittenOrCalling();
     testSupervisorSeesTheDelegated();
