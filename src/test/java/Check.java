@@ -8,6 +8,9 @@ final class Check {
   };
 
   private static int wrong = 0;
+  private static int cases = 0;
+  /** The boundary case that is being tested, for the lines that tell what is wrong. */
+  private static String now = "";
 
   private Check() {}
 
@@ -25,7 +28,19 @@ final class Check {
 
   static void fail(String what) {
     wrong++;
-    System.out.println(what);
+    System.out.println(now + what);
+  }
+
+  /** One boundary case: the words of the document that name it, and which side of it is tested. */
+  static void test(String words, String side, Runnable body) {
+    cases++;
+    now = "\"" + words + "\", " + side + ": ";
+    try {
+      body.run();
+    } catch (RuntimeException e) {
+      fail("threw " + e);
+    }
+    now = "";
   }
 
   /** The call throws just this kind of exception, and the hart is then as one without the call. */
@@ -67,27 +82,32 @@ final class Check {
     return seen.toString();
   }
 
-  /** Which lines are high shows only in what becomes pending once all are served and completed. */
+  /**
+   * Which lines are high shows in what becomes pending again once all are served and completed, and
+   * in the edges that a rise of all lines adds. An object is good for 512 calls, so one round of it.
+   */
   private static String linesKept(TrapHart hart) {
     hart.store(128, -1);
     for (int s = 1; s <= 15; s++) {
       hart.store(4 * s, 1);
     }
-    StringBuilder seen = new StringBuilder();
-    for (int round = 0; round < 17; round++) {
-      for (int s = 1; s <= 15; s++) {
-        hart.load(136);
-      }
-      for (int s = 1; s <= 15; s++) {
-        hart.store(136, s);
-      }
-      seen.append(hart.load(64)).append(' ');
+    for (int s = 1; s <= 15; s++) {
+      hart.load(136);
     }
-    return seen.append(hart.lines(-1)).toString();
+    for (int s = 1; s <= 15; s++) {
+      hart.store(136, s);
+    }
+    StringBuilder seen = new StringBuilder();
+    seen.append(hart.load(64)).append(" then ").append(hart.lines(-1));
+    for (int s = 1; s <= 15; s++) {
+      seen.append(' ').append(hart.source(s));
+    }
+    return seen.toString();
   }
 
   static void end(String name) {
-    System.out.println(name + ": " + (wrong == 0 ? "all as due" : wrong + " not as due"));
+    String tested = cases == 0 ? name : name + " (" + cases + " cases)";
+    System.out.println(tested + ": " + (wrong == 0 ? "all as due" : wrong + " not as due"));
     if (wrong != 0) {
       System.exit(1);
     }
