@@ -34,6 +34,24 @@ public final class BoundaryCallsTest {
     Check.is("of edges", new TrapHart(-1).lines(set), due);
   }
 
+  private static void aNewHart() {
+    for (int edges : new int[] {0, -1, LEAST, GREATEST}) {
+      TrapHart hart = new TrapHart(edges);
+      Check.is("privilege", hart.privilege(), 3);
+      Check.is("PC", hart.pc(), 0);
+      Check.is("due", hart.due(), -1);
+    }
+  }
+
+  private static void privilegesAreThree() {
+    for (int privilege : PRIVILEGES) {
+      Check.is("left for", Harts.at(privilege).privilege(), privilege);
+    }
+    TrapHart two = new TrapHart(0);
+    two.write(Harts.STATUS, 2 << 11);
+    Check.is("2 is none", two.leave(true), 0);
+  }
+
   private static void sameLinesAreNoEdges() {
     TrapHart hart = new TrapHart(2);
     hart.lines(2);
@@ -75,6 +93,27 @@ public final class BoundaryCallsTest {
     Check.is("edges", hart.lines(2), 2);
     Check.is("and level", hart.lines(4), 6);
     Check.is("as word 64 does", hart.load(64), 6);
+  }
+
+  private static void linesThenForward() {
+    TrapHart hart = new TrapHart(2);
+    hart.lines(2);
+    Check.is("the edge was counted and forwarded", hart.source(1), 0);
+    Check.is("pending", hart.load(64), 2);
+  }
+
+  private static void accessAnswers() {
+    long[] answers = {
+      new TrapHart(0).access(1, false, 0),
+      new TrapHart(0).access(0, false, 0),
+      new TrapHart(0).access(1, true, 0),
+      new TrapHart(0).access(0, true, 0),
+      new TrapHart(0).access(64, true, 0)
+    };
+    long[] due = {-5, -6, -7, -8, -8};
+    for (int i = 0; i < due.length; i++) {
+      Check.is("answer " + i, answers[i], due[i]);
+    }
   }
 
   private static void checkAccessTrap(int address, boolean write, int cause) {
@@ -171,6 +210,26 @@ public final class BoundaryCallsTest {
     Check.is("the one taken", hart.step(), 1);
     Check.is("PC", hart.pc(), 0x100);
     Check.is("RETURN", hart.read(Harts.RETURN), 0);
+  }
+
+  private static void stepAnswersEachNumber() {
+    for (int interrupt : new int[] {1, 5, 9}) {
+      TrapHart hart = new TrapHart(0);
+      hart.write(Harts.PENDING, 1 << interrupt);
+      hart.write(Harts.ENABLED, 1 << interrupt);
+      hart.write(Harts.STATUS, 8);
+      Check.is("step", hart.step(), interrupt);
+      Check.is("M is 0 then", hart.step(), -1);
+    }
+  }
+
+  private static void raiseAnswersThePrivilegeThen() {
+    for (int privilege : PRIVILEGES) {
+      Check.is("machine's", Harts.at(privilege).raise(15), 3);
+      TrapHart hart = new TrapHart(0);
+      hart.write(Harts.DELEGATED_EXCEPTIONS, 1 << 15);
+      Check.is("delegated", Harts.go(hart, privilege, 0).raise(15), privilege == 3 ? 3 : 1);
+    }
   }
 
   private static void checkRaised(int... causes) {
@@ -318,6 +377,21 @@ public final class BoundaryCallsTest {
     Check.is("and context 1 serves", hart.source(s), 62);
   }
 
+  private static void servedByEach() {
+    for (int c = 0; c <= 1; c++) {
+      TrapHart hart = new TrapHart(0);
+      hart.store(4, 1);
+      hart.store(128 + 16 * c, 2);
+      hart.lines(2);
+      Check.is("not served", hart.source(1), 0);
+      hart.load(136 + 16 * c);
+      Check.is("served by " + c, hart.source(1), 1 + c);
+      hart.lines(0);
+      hart.store(136 + 16 * c, 1);
+      Check.is("completed", hart.source(1), 0);
+    }
+  }
+
   private static void checkLastCall() {
     TrapHart steps = new TrapHart(0);
     for (int call = 1; call <= 511; call++) {
@@ -362,6 +436,9 @@ public final class BoundaryCallsTest {
   }
 
   private static void testMakingAndLines() {
+    String privilege = "PRIVILEGE is 0 user, 1 supervisor or 3 machine, at first 3";
+    Check.test(privilege, "new", BoundaryCallsTest::aNewHart);
+    Check.test(privilege, "2 is none", BoundaryCallsTest::privilegesAreThree);
     String edges = "Sources s of which bit s (1 .. 15) of edges is 1 are of edges";
     Check.test(edges, "none", () -> checkEdges(0, 0));
     Check.test(edges, "all", () -> checkEdges(-1, 0xFFFE));
@@ -382,6 +459,7 @@ public final class BoundaryCallsTest {
     String rise = "One of edges whose line was low and is high now waits for one edge more";
     Check.test(rise, "the same lines", BoundaryCallsTest::sameLinesAreNoEdges);
     Check.test("if they aren't 15", "full", BoundaryCallsTest::edgesAreFull);
+    Check.test("(Then sources forward.)", "the first edge", BoundaryCallsTest::linesThenForward);
     String answer = "Answers the set of the pending sources";
     Check.test(answer, "after forwarding", BoundaryCallsTest::linesAnswersAfterForwarding);
   }
@@ -404,6 +482,7 @@ public final class BoundaryCallsTest {
     String seven = "7 for one absent or fixed";
     Check.test(seven, "absent", () -> checkAccessTraps(true, 7, 0, 68, 140, 156, 212, -4, LEAST));
     Check.test(seven, "fixed", () -> checkAccessTraps(true, 7, 64));
+    Check.test("answers -1 - cause", "each", BoundaryCallsTest::accessAnswers);
     String instead = "there is a trap instead";
     Check.test(instead, "no word changes", BoundaryCallsTest::accessTrapLeavesTheWords);
   }
@@ -412,6 +491,9 @@ public final class BoundaryCallsTest {
     Check.test("Otherwise the PC grows by 4", "it wraps", BoundaryCallsTest::stepWraps);
     String trap = "there is a trap by the one that is taken";
     Check.test(trap, "not 4 more", BoundaryCallsTest::stepByTrapDoesNotGrow);
+    Check.test("answers its number", "each", BoundaryCallsTest::stepAnswersEachNumber);
+    String then = "Answers the privilege then";
+    Check.test(then, "raise", BoundaryCallsTest::raiseAnswersThePrivilegeThen);
     String causes = "IllegalArgumentException if cause is not 0 .. 9, 11, 12, 13 or 15";
     Check.test(causes, "0 and 9", () -> checkRaised(0, 9));
     Check.test(causes, "1 .. 8", () -> checkRaised(1, 2, 3, 4, 5, 6, 7, 8));
@@ -455,6 +537,8 @@ public final class BoundaryCallsTest {
     Check.test(sources, "below 0", () -> checkSourceRefused(-1, -15, LEAST));
     Check.test(sources, "16", () -> checkSourceRefused(16));
     Check.test(sources, "above", () -> checkSourceRefused(17, 32, 33, GREATEST));
+    String more = "1 more than the context that serves it";
+    Check.test(more, "none, 0 and 1", BoundaryCallsTest::servedByEach);
     String sum = "The sum of 4 times the edges that are waiting at source s";
     Check.test(sum, "least and greatest at 1", () -> checkSums(1));
     Check.test(sum, "least and greatest at 15", () -> checkSums(15));

@@ -264,6 +264,37 @@ public final class BoundaryContextsTest {
     Check.is("completed", hart.source(1), 0);
   }
 
+  /** The pending set after context 0 completes source 1, whose line and waiting edges are given. */
+  private static int pendingAfterCompleting(int edges, int risesWhileServed, int lineThen) {
+    TrapHart hart = new TrapHart(edges);
+    hart.store(4, 1);
+    hart.store(128, 2);
+    hart.lines(2);
+    hart.load(136);
+    for (int rise = 1; rise <= risesWhileServed; rise++) {
+      hart.lines(0);
+      hart.lines(2);
+    }
+    hart.lines(lineThen);
+    hart.store(136, 1);
+    Check.is("no more served", hart.source(1) & 3, 0);
+    return hart.load(64);
+  }
+
+  private static void completedLevelForwards() {
+    Check.is("high", pendingAfterCompleting(0, 0, 2), 2);
+    Check.is("low", pendingAfterCompleting(0, 0, 0), 0);
+    Check.is("high between", pendingAfterCompleting(0, 3, 0), 0);
+  }
+
+  private static void completedEdgesForward() {
+    Check.is("none waits, high", pendingAfterCompleting(2, 0, 2), 0);
+    Check.is("none waits, low", pendingAfterCompleting(2, 0, 0), 0);
+    Check.is("one waits, low", pendingAfterCompleting(2, 1, 0), 2);
+    Check.is("one waits, high", pendingAfterCompleting(2, 1, 2), 2);
+    Check.is("15 wait", pendingAfterCompleting(2, 16, 0), 2);
+  }
+
   private static void callsIfAboveTheThreshold() {
     for (int c : CONTEXTS) {
       for (int priority = 0; priority <= 7; priority++) {
@@ -357,6 +388,9 @@ public final class BoundaryContextsTest {
     Check.test(served, "pending", BoundaryContextsTest::completingWhatIsPending);
     Check.test(served, "twice", BoundaryContextsTest::completingTwice);
     Check.test(served, "the other's", BoundaryContextsTest::completingWhatTheOtherServes);
+    String forwards = "the source is no more served (and forwards, if it can)";
+    Check.test(forwards, "of level", BoundaryContextsTest::completedLevelForwards);
+    Check.test(forwards, "of edges", BoundaryContextsTest::completedEdgesForward);
   }
 
   private static void testCalls() {

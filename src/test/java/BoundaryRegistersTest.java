@@ -7,39 +7,54 @@ public final class BoundaryRegistersTest {
   private static final int[] PRIVILEGES = {0, 1, 3};
   private static final int[] DELEGABLE_SETS = {0, 0x2, 0x20, 0x22, 0x200, 0x202, 0x220, 0x222};
 
+  /** All registers; those in one row show the same bits. */
+  private static final int[][] TOGETHER = {
+    {Harts.STATUS, Harts.S_STATUS},
+    {Harts.ENABLED, Harts.S_ENABLED},
+    {Harts.PENDING, Harts.S_PENDING},
+    {Harts.DELEGATED_INTERRUPTS},
+    {Harts.DELEGATED_EXCEPTIONS},
+    {Harts.VECTOR},
+    {Harts.S_VECTOR},
+    {Harts.RETURN},
+    {Harts.S_RETURN},
+    {Harts.CAUSE},
+    {Harts.S_CAUSE}
+  };
+
+  private static void checkRead(
+      int register, int privilege, Class<? extends RuntimeException> kind) {
+    Check.refuses(
+        "read(" + register + ") in privilege " + privilege,
+        kind,
+        () -> Harts.busy(privilege),
+        hart -> hart.read(register));
+  }
+
+  private static void checkWrite(
+      int register, int privilege, Class<? extends RuntimeException> kind) {
+    for (int value : new int[] {0, -1}) {
+      Check.refuses(
+          "write(" + register + ", " + value + ") in privilege " + privilege,
+          kind,
+          () -> Harts.busy(privilege),
+          hart -> hart.write(register, value));
+    }
+  }
+
   private static void checkNone(int... numbers) {
     for (int number : numbers) {
       for (int privilege : PRIVILEGES) {
-        String of = number + " in privilege " + privilege;
-        Check.refuses(
-            "read of " + of,
-            NoSuchElementException.class,
-            () -> Harts.busy(privilege),
-            hart -> hart.read(number));
-        Check.refuses(
-            "write of " + of,
-            NoSuchElementException.class,
-            () -> Harts.busy(privilege),
-            hart -> hart.write(number, -1));
+        checkRead(number, privilege, NoSuchElementException.class);
+        checkWrite(number, privilege, NoSuchElementException.class);
       }
     }
   }
 
   private static void checkTooLow(int[] registers, int privilege) {
     for (int register : registers) {
-      String of = register + " in privilege " + privilege;
-      Check.refuses(
-          "read of " + of,
-          IllegalStateException.class,
-          () -> Harts.busy(privilege),
-          hart -> hart.read(register));
-      for (int value : new int[] {0, -1}) {
-        Check.refuses(
-            "write of " + of,
-            IllegalStateException.class,
-            () -> Harts.busy(privilege),
-            hart -> hart.write(register, value));
-      }
+      checkRead(register, privilege, IllegalStateException.class);
+      checkWrite(register, privilege, IllegalStateException.class);
     }
   }
 
@@ -221,6 +236,26 @@ public final class BoundaryRegistersTest {
     Check.is("9 is gone, 11 stays", hart.read(Harts.PENDING), 0x888);
   }
 
+  private static void oneAndFiveAreAsWritten() {
+    for (int bits : new int[] {0, 0x2, 0x20, 0x22}) {
+      TrapHart hart = allCalling();
+      hart.write(Harts.PENDING, bits);
+      Check.is("written " + bits, hart.read(Harts.PENDING), 0xA88 | bits);
+      hart.step();
+      Check.is("then", hart.read(Harts.PENDING), 0xA88 | bits);
+    }
+  }
+
+  /** A trap does not put out what it was taken for. */
+  private static void takenStaysWritten() {
+    TrapHart hart = new TrapHart(0);
+    hart.write(Harts.PENDING, 0x222);
+    hart.write(Harts.ENABLED, -1);
+    hart.write(Harts.STATUS, 8);
+    Check.is("taken", hart.step(), 9);
+    Check.is("PENDING", hart.read(Harts.PENDING), 0x222);
+  }
+
   private static void supervisorSeesTheDelegatedOfEnabled() {
     for (int set : DELEGABLE_SETS) {
       TrapHart hart = new TrapHart(0);
@@ -279,6 +314,32 @@ public final class BoundaryRegistersTest {
     Check.is("the machine's PENDING", hart.read(Harts.PENDING), 2);
   }
 
+  private static void othersStay() {
+    for (int[] written : TOGETHER) {
+      for (int register : written) {
+        for (int[] others : TOGETHER) {
+          if (others != written) {
+            checkStay(register, others);
+          }
+        }
+      }
+    }
+  }
+
+  /** All interrupts are delegated before, so that what the supervisor is shown does not change. */
+  private static void checkStay(int written, int[] others) {
+    for (int other : others) {
+      for (int value : new int[] {0, -1}) {
+        TrapHart hart = new TrapHart(0);
+        hart.write(Harts.DELEGATED_INTERRUPTS, -1);
+        hart.write(other, ~value);
+        int before = hart.read(other);
+        hart.write(written, written == Harts.DELEGATED_INTERRUPTS ? -1 : value);
+        Check.is(other + " after write of " + written, hart.read(other), before);
+      }
+    }
+  }
+
   private static void bothKeep(int machines, int supervisors, int kept) {
     checkKept(machines, kept);
     checkKept(supervisors, kept);
@@ -305,8 +366,25 @@ public final class BoundaryRegistersTest {
     Check.test(others, "0", () -> checkTooLow(Harts.SUPERVISORS, 0));
     Check.test(others, "1", () -> checkHighEnough(Harts.SUPERVISORS, 1));
     Check.test(others, "3", () -> checkHighEnough(Harts.SUPERVISORS, 3));
+  }
+
+  private static void testPromises() {
+    String none = "NoSuchElementException if there is none";
+    Class<? extends RuntimeException> isNone = NoSuchElementException.class;
+    Check.test(none, "read", () -> checkRead(769, 3, isNone));
+    Check.test(none, "write", () -> checkWrite(769, 3, isNone));
+    String with = "Writes the register with that number";
+    Check.test(with, "no other", BoundaryRegistersTest::othersStay);
+    String low = "IllegalStateException if the privilege is too low for it";
+    Class<? extends RuntimeException> isLow = IllegalStateException.class;
+    Check.test(low, "read, machine's", () -> checkRead(Harts.STATUS, 1, isLow));
+    Check.test(low, "read, supervisor's", () -> checkRead(Harts.S_STATUS, 0, isLow));
+    String same = "Throws as read() does";
+    Check.test(same, "write, machine's", () -> checkWrite(Harts.PENDING, 1, isLow));
+    Check.test(same, "write, supervisor's", () -> checkWrite(Harts.S_PENDING, 0, isLow));
     String first = "What a call says first is tested first";
-    Check.test(first, "no register, and privilege 0", () -> checkNone(769, 1000, 2000));
+    Check.test(first, "none before too low, read", () -> checkRead(769, 0, isNone));
+    Check.test(first, "none before too low, write", () -> checkWrite(769, 0, isNone));
   }
 
   private static void testStatus() {
@@ -327,6 +405,9 @@ public final class BoundaryRegistersTest {
     String writing = "Writing it changes what was written of 1, 5 and 9";
     Check.test(writing, "each bit", () -> checkKept(Harts.PENDING, 0x222));
     Check.test(writing, "of the devices", BoundaryRegistersTest::devicesBitsAreNotWritten);
+    String written = "1 and 5 as they were written";
+    Check.test(written, "whatever the devices do", BoundaryRegistersTest::oneAndFiveAreAsWritten);
+    Check.test(written, "after the trap", BoundaryRegistersTest::takenStaysWritten);
     String nine = "9 as it was written, or 1 if context 1 is calling";
     Check.test(nine, "either, both, none", BoundaryRegistersTest::nineIsWrittenOrCalling);
     Check.test(nine, "apart", BoundaryRegistersTest::callingNineIsNotTakenAsWritten);
@@ -360,6 +441,7 @@ public final class BoundaryRegistersTest {
   public static void main(String[] args) {
     testNumbers();
     testPrivileges();
+    testPromises();
     testStatus();
     testPending();
     testSupervisorsInterrupts();

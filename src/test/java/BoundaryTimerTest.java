@@ -139,6 +139,19 @@ public final class BoundaryTimerTest {
     Check.is("0", hart.read(Harts.PENDING), 0);
   }
 
+  private static void softIsApart() {
+    TrapHart hart = with(5L, 6L);
+    hart.store(192, -1);
+    Check.is("soft", hart.load(192), 1);
+    Check.is("COMPARE", hart.load(196), 6);
+    checkTime(hart, 5L);
+    Check.is("soft alone", hart.read(Harts.PENDING), 1 << 3);
+    hart.ticks(1);
+    Check.is("and the timer", hart.read(Harts.PENDING), 1 << 3 | 1 << 7);
+    hart.store(192, 0);
+    Check.is("the timer alone", hart.read(Harts.PENDING), 1 << 7);
+  }
+
   private static void testCompare() {
     String first = "at first 0 and the greatest one";
     Check.test(first, "new", BoundaryTimerTest::atFirst);
@@ -168,6 +181,7 @@ public final class BoundaryTimerTest {
   private static void testSoft() {
     Check.test("a SOFT bit, at first 0", "new", BoundaryTimerTest::softAtFirst);
     Check.test("3 the soft bit of the timer", "1 and 0", BoundaryTimerTest::softShows);
+    Check.test("192: the soft bit", "not the halves beside it", BoundaryTimerTest::softIsApart);
   }
 
   public static void main(String[] args) {

@@ -74,7 +74,8 @@ public final class BoundaryTrapsTest {
     for (int cause : CAUSES) {
       int alone = Harts.go(delegating(1 << cause), 0, 0).raise(cause);
       Check.is("its bit alone, " + cause, alone, cause == 11 ? 3 : 1);
-      Check.is("all but its bit, " + cause, Harts.go(delegating(~(1 << cause)), 0, 0).raise(cause), 3);
+      int others = Harts.go(delegating(~(1 << cause)), 0, 0).raise(cause);
+      Check.is("all but its bit, " + cause, others, 3);
     }
   }
 
@@ -187,6 +188,19 @@ public final class BoundaryTrapsTest {
     Check.is("3 over 1", hart.read(Harts.STATUS), 3 << 11);
   }
 
+  private static void privilegeAfterEachTrap() {
+    for (int privilege : PRIVILEGES) {
+      TrapHart machine = Harts.go(delegating(0), privilege, 0);
+      machine.raise(0);
+      Check.is("machine's, from " + privilege, machine.privilege(), 3);
+    }
+    for (int privilege : new int[] {0, 1}) {
+      TrapHart supervisor = Harts.go(delegating(-1), privilege, 0);
+      supervisor.raise(0);
+      Check.is("supervisor's, from " + privilege, supervisor.privilege(), 1);
+    }
+  }
+
   private static int pcByInterrupt(int interrupt, int vector) {
     TrapHart hart = with(1 << interrupt, 1 << interrupt, 0, 8);
     hart.write(Harts.VECTOR, vector);
@@ -203,8 +217,9 @@ public final class BoundaryTrapsTest {
 
   private static void vectorBitZeroIsOne() {
     for (int interrupt : ORDER) {
-      Check.is("machine", pcByInterrupt(interrupt, VECTOR | 1), VECTOR + 4 * interrupt);
-      Check.is("machine, bit 1 is none", pcByInterrupt(interrupt, VECTOR | 3), VECTOR + 4 * interrupt);
+      int due = VECTOR + 4 * interrupt;
+      Check.is("machine", pcByInterrupt(interrupt, VECTOR | 1), due);
+      Check.is("machine, bit 1 is none", pcByInterrupt(interrupt, VECTOR | 3), due);
     }
     for (int interrupt : new int[] {1, 5, 9}) {
       int pc = pcByDelegatedInterrupt(interrupt, S_VECTOR | 1);
@@ -334,7 +349,7 @@ public final class BoundaryTrapsTest {
     Check.test(where, "3", () -> delegatedFromPrivilege(3, 3));
     Check.test(where, "0, interrupt", () -> delegatedInterruptFromPrivilege(0));
     Check.test(where, "1, interrupt", () -> delegatedInterruptFromPrivilege(1));
-    String bit = "the cause's bit is in the delegated interrupts or exceptions, else to the machine";
+    String bit = "the cause's bit is in the delegated interrupts or exceptions";
     Check.test(bit, "exceptions", BoundaryTrapsTest::exceptionsAskTheDelegatedExceptions);
     Check.test(bit, "interrupts", BoundaryTrapsTest::interruptsAskTheDelegatedInterrupts);
     Check.test(bit, "each", BoundaryTrapsTest::eachExceptionByItsOwnBit);
@@ -359,6 +374,11 @@ public final class BoundaryTrapsTest {
     Check.test(before, "bit 8", BoundaryTrapsTest::bitEightOfUserAndSupervisor);
     Check.test(before, "bits 11 and 12", BoundaryTrapsTest::bitsElevenAndTwelveOfAllThree);
     Check.test(before, "over others", BoundaryTrapsTest::bitsElevenAndTwelveOverOthers);
+  }
+
+  private static void testPrivilege() {
+    String becomes = "the privilege becomes 1 or 3";
+    Check.test(becomes, "from each", BoundaryTrapsTest::privilegeAfterEachTrap);
   }
 
   private static void testVector() {
@@ -402,6 +422,7 @@ public final class BoundaryTrapsTest {
   public static void main(String[] args) {
     testWhere();
     testWrittenDown();
+    testPrivilege();
     testVector();
     testDue();
     testOrder();

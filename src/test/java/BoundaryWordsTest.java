@@ -4,35 +4,41 @@ import java.util.function.IntConsumer;
 public final class BoundaryWordsTest {
   private static final int LEAST = Integer.MIN_VALUE;
   private static final int GREATEST = Integer.MAX_VALUE;
+  private static final int[] WORDS = {
+    4, 8, 12, 16, 20, 24, 28, 32, 36, 40, 44, 48, 52, 56, 60,
+    64, 128, 132, 136, 144, 148, 152, 192, 196, 200, 204, 208
+  };
 
-  private static void checkAbsent(int address) {
+  private static void checkLoad(int address, Class<? extends RuntimeException> kind) {
     for (int privilege : new int[] {0, 1, 3}) {
       Check.refuses(
           "load(" + address + ")",
-          IndexOutOfBoundsException.class,
+          kind,
           () -> Harts.busy(privilege),
           hart -> hart.load(address));
-      Check.refuses(
-          "store(" + address + ", 1)",
-          IndexOutOfBoundsException.class,
-          () -> Harts.busy(privilege),
-          hart -> hart.store(address, 1));
     }
   }
 
-  private static void checkWrong(int address) {
+  private static void checkStore(int address, Class<? extends RuntimeException> kind) {
     for (int privilege : new int[] {0, 1, 3}) {
-      Check.refuses(
-          "load(" + address + ")",
-          IllegalArgumentException.class,
-          () -> Harts.busy(privilege),
-          hart -> hart.load(address));
-      Check.refuses(
-          "store(" + address + ", 1)",
-          IllegalArgumentException.class,
-          () -> Harts.busy(privilege),
-          hart -> hart.store(address, 1));
+      for (int value : new int[] {0, 1, -1}) {
+        Check.refuses(
+            "store(" + address + ", " + value + ")",
+            kind,
+            () -> Harts.busy(privilege),
+            hart -> hart.store(address, value));
+      }
     }
+  }
+
+  private static void checkAbsent(int address) {
+    checkLoad(address, IndexOutOfBoundsException.class);
+    checkStore(address, IndexOutOfBoundsException.class);
+  }
+
+  private static void checkWrong(int address) {
+    checkLoad(address, IllegalArgumentException.class);
+    checkStore(address, IllegalArgumentException.class);
   }
 
   private static void each(IntConsumer check, int... addresses) {
@@ -120,6 +126,30 @@ public final class BoundaryWordsTest {
     Check.is("pending", hart.load(64), 2);
   }
 
+  private static void thresholdsStandApart() {
+    TrapHart hart = new TrapHart(0);
+    hart.store(132, 7);
+    Check.is("of 0", hart.load(132), 7);
+    Check.is("of 1", hart.load(148), 0);
+    hart.store(148, 1);
+    Check.is("of 0", hart.load(132), 7);
+    Check.is("of 1", hart.load(148), 1);
+  }
+
+  private static void writingCompletesAndNothingElse() {
+    for (int c = 0; c <= 1; c++) {
+      TrapHart hart = new TrapHart(0);
+      hart.store(4, 1);
+      hart.store(128 + 16 * c, 2);
+      hart.lines(2);
+      hart.store(136 + 16 * c, 1);
+      Check.is("it does not claim", hart.source(1), 0);
+      Check.is("still pending", hart.load(64), 2);
+      Check.is("nor is it kept", hart.load(136 + 16 * c), 1);
+      Check.is("nor twice", hart.load(136 + 16 * c), 0);
+    }
+  }
+
   private static void halvesOf(int lower, int higher) {
     for (int value : new int[] {0, 1, -1, LEAST, GREATEST}) {
       TrapHart hart = new TrapHart(0);
@@ -173,16 +203,6 @@ public final class BoundaryWordsTest {
     Check.is("soft 2 is 0", hart.read(Harts.PENDING), 1 << 11);
   }
 
-  private static void checkFixed(int value) {
-    for (int privilege : new int[] {0, 1, 3}) {
-      Check.refuses(
-          "store(64, " + value + ")",
-          UnsupportedOperationException.class,
-          () -> Harts.busy(privilege),
-          hart -> hart.store(64, value));
-    }
-  }
-
   private static void fixedIsReadAllTheSame() {
     TrapHart hart = new TrapHart(0);
     hart.lines(2);
@@ -198,6 +218,27 @@ public final class BoundaryWordsTest {
     Check.is("word 60 is written", hart.load(60), 0);
   }
 
+  /** The claims too are written, but as nothing is served they complete nothing. */
+  private static void otherWordsStay() {
+    for (int written : WORDS) {
+      for (int other : WORDS) {
+        if (other != written && written != 64 && other != 64) {
+          checkStays(written, other);
+        }
+      }
+    }
+  }
+
+  private static void checkStays(int written, int other) {
+    for (int value : new int[] {0, -1}) {
+      TrapHart hart = new TrapHart(0);
+      hart.store(other, ~value);
+      int before = hart.load(other);
+      hart.store(written, value);
+      Check.is("word " + other + " after " + written, hart.load(other), before);
+    }
+  }
+
   private static void everyOtherAddressIsNotThere() {
     int there = 0;
     for (int address = -128; address <= 1024; address += 4) {
@@ -208,7 +249,7 @@ public final class BoundaryWordsTest {
         // It is one of the others, and only counted as that.
       }
     }
-    Check.is("words there", there, 15 + 1 + 6 + 5);
+    Check.is("words there", there, WORDS.length);
   }
 
   private static void testPlaces() {
@@ -233,6 +274,10 @@ public final class BoundaryWordsTest {
     Check.test(contexts, "0 and 1", BoundaryWordsTest::contextsHaveTheirOwnWords);
     String claims = "136 + 16 * c: reading it claims and gives what was found";
     Check.test(claims, "no other does", BoundaryWordsTest::readingClaimsOnlyThere);
+    String completes = "writing completes the number written";
+    Check.test(completes, "no more", BoundaryWordsTest::writingCompletesAndNothingElse);
+    String threshold = "132 + 16 * c: its threshold";
+    Check.test(threshold, "0 and 1", BoundaryWordsTest::thresholdsStandApart);
     String halves = "196 and 200: the lower and the higher half of COMPARE";
     Check.test(halves, "all values", () -> halvesOf(196, 200));
     Check.test("204 and 208: those of TIME", "all values", () -> halvesOf(204, 208));
@@ -259,16 +304,36 @@ public final class BoundaryWordsTest {
     String fixed = "for writing, it is FIXED if it is 64";
     Check.test(fixed, "wrong beside it", () -> each(isWrong, 63, 65, 66, 67));
     Check.test(fixed, "absent after it", () -> checkAbsent(68));
-    Check.test(fixed, "0 is written", () -> checkFixed(0));
-    Check.test(fixed, "all bits are written", () -> checkFixed(-1));
+    Check.test(fixed, "64", () -> checkStore(64, UnsupportedOperationException.class));
     Check.test(fixed, "for reading", BoundaryWordsTest::fixedIsReadAllTheSame);
     Check.test(fixed, "no other", BoundaryWordsTest::onlySixtyFourIsFixed);
+  }
+
+  private static void testPromises() {
+    String at = "Writes the word at an address";
+    Check.test(at, "no other", BoundaryWordsTest::otherWordsStay);
+    String wrong = "IllegalArgumentException if the address is wrong";
+    Class<? extends RuntimeException> isWrong = IllegalArgumentException.class;
+    Check.test(wrong, "load", () -> each(a -> checkLoad(a, isWrong), 5, 6, 7, 210));
+    Check.test(wrong, "store", () -> each(a -> checkStore(a, isWrong), 5, 6, 7, 210));
+    String absent = "IndexOutOfBoundsException if it is absent";
+    Class<? extends RuntimeException> isAbsent = IndexOutOfBoundsException.class;
+    Check.test(absent, "load", () -> each(a -> checkLoad(a, isAbsent), 0, 68, 188, 212));
+    Check.test(absent, "store", () -> each(a -> checkStore(a, isAbsent), 0, 68, 188, 212));
+    String fixed = "UnsupportedOperationException if it is fixed";
+    Class<? extends RuntimeException> isFixed = UnsupportedOperationException.class;
+    Check.test(fixed, "store", () -> checkStore(64, isFixed));
+    String first = "What a call says first is tested first";
+    Check.test(first, "wrong before absent", () -> each(a -> checkStore(a, isWrong), 1, 215));
+    Check.test(first, "absent before fixed", () -> checkStore(68, isAbsent));
+    Check.test(first, "wrong before fixed", () -> checkStore(64 + 1, isWrong));
   }
 
   public static void main(String[] args) {
     testPlaces();
     testKept();
     testRefused();
+    testPromises();
     Check.end("BoundaryWordsTest");
   }
 }

@@ -84,7 +84,7 @@ final class Check {
 
   /**
    * Which lines are high shows in what becomes pending again once all are served and completed, and
-   * in the edges that a rise of all lines adds. An object is good for 512 calls, so one round of it.
+   * in the edges that a rise of all lines adds. One round: an object is good for 512 calls alone.
    */
   private static String linesKept(TrapHart hart) {
     hart.store(128, -1);
