@@ -74,9 +74,18 @@ public final class FaceTest {
     }
   }
 
+  private static void testClassesInside() {
+    for (Class<?> inside : TrapHart.class.getDeclaredClasses()) {
+      if (!Modifier.isStatic(inside.getModifiers()) || !Modifier.isPrivate(inside.getModifiers())) {
+        Check.fail("the class " + inside.getName() + " is not private and static");
+      }
+    }
+  }
+
   public static void main(String[] args) {
     testMethods();
     testTheRest();
+    testClassesInside();
     Check.end("FaceTest");
   }
 }
